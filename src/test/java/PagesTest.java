@@ -18,6 +18,7 @@ public final class PagesTest {
         longRestsAtATurn();
         fewestHardTurnsFirst();
         firstPagesAreFull();
+        eachCallAlone();
         wrongParts();
         check.end();
     }
@@ -181,6 +182,23 @@ public final class PagesTest {
         same("a full page at the end", "hard 0 ends 3 5", bench);
         bench.addNote(0, 5, 0, 4, 1, 60);
         same("three pages: all but the last are full", "hard 0 ends 3 4 5", bench);
+    }
+
+    /** Each answer is that of the part asked for, whatever was asked before. */
+    private static void eachCallAlone() {
+        PartcopyistBench bench = bench(bar(0, 15), bar(0, 15), bar(0, 15), bar(0, 15));
+        bench.addPart(0);
+        bench.setPage(2);
+        check.same("promise 27: four pages", 4, () -> bench.pages(0));
+        check.same("promise 28: the rest of part 1", 3, () -> bench.pageEnd(1, 0));
+        check.same("promise 26: three hard turns", 3, () -> bench.hardTurnsByTrying(0));
+        check.same("promise 27: one page", 1, () -> bench.pages(1));
+        check.same("promise 28: one bar", 0, () -> bench.pageEnd(0, 0));
+        check.same("promise 26: none", 0, () -> bench.hardTurnsByTrying(1));
+        check.same("promise 25: three", 3, () -> bench.hardTurns(0));
+        check.same("promise 19: no rests of part 0", 0, () -> bench.rests(0));
+        check.thrown("promise 20: no rest of part 0", INDEX, () -> bench.restFirst(0, 0));
+        check.same("promise 21: one of part 1", 4, () -> bench.restBars(1, 0));
     }
 
     private static void wrongParts() {
