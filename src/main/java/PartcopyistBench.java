@@ -768,6 +768,7 @@ public final class PartcopyistBench {
         private final int[] hardFrom = new int[ROOM];
         private final int[] pagesFrom = new int[ROOM];
         private final int[] nextPageFrom = new int[ROOM];
+        // From 0 to MOST_BARS, as add takes no more: each index up to count, it included, is within the rows.
         private int count = 0;
         private int pagePlaces = 0;
         private int turnTicks = 0;
