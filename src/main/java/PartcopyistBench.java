@@ -171,9 +171,9 @@ public final class PartcopyistBench {
     }
 
     public int writtenKey(int part, int bar) throws IndexOutOfBoundsException {
-        Part knownPart = knownPart(part);
-        Bar knownBar = knownBar(bar);
-        return shiftedKey(knownBar.key, knownPart.shift);
+        int shift = knownPart(part).shift;
+        int key = knownBar(bar).key;
+        return shiftedKey(key, shift);
     }
 
     public char letterOf(int note) throws NoSuchElementException {

@@ -27,6 +27,11 @@ record Called(String name, List<Object> arguments) {
         return face;
     }
 
+    /** The names of all calls of the face. */
+    static Set<String> names() {
+        return FACE.keySet();
+    }
+
     boolean changes() {
         return CHANGING.contains(name);
     }
